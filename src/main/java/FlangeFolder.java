@@ -140,9 +140,6 @@ public final class FlangeFolder {
             return refused(BAD);
         }
         planner.plan();
-        if (planner.orderCount == 0) {
-            return NONE;
-        }
         return what == 0 ? planner.firstOrder[k] : planner.bestOrder[k];
     }
 
@@ -151,9 +148,6 @@ public final class FlangeFolder {
             return refused(BAD);
         }
         planner.plan();
-        if (planner.orderCount == 0) {
-            return NONE;
-        }
         return what == 0 ? planner.bestChanges : planner.firstChanges;
     }
 
@@ -255,11 +249,12 @@ public final class FlangeFolder {
         for (int what = 0; what <= 3; what++) {
             h = 31L * h + box(what);
         }
-        h = 31L * h + free();
-        h = 31L * h + orders();
-        h = 31L * h + changes(0);
-        h = 31L * h + changes(1);
-        return 31L * h + ways();
+        planner.plan();
+        h = 31L * h + planner.freeAt(sheet.made);
+        h = 31L * h + planner.orderCount;
+        h = 31L * h + planner.bestChanges;
+        h = 31L * h + planner.firstChanges;
+        return 31L * h + planner.pathsFrom(sheet.made);
     }
 
     // ---- what the calls share
@@ -396,12 +391,15 @@ public final class FlangeFolder {
             return found;
         }
 
-        /** Neighbours meet in their joint alone, so only flanges further apart are looked at. */
+        /** Neighbours meet in their joint alone, and one flange between two keeps them apart, however it is bent. */
         boolean crossesItself() {
             for (int i = 0; i < flanges; i++) {
-                for (int j = i + 2; j < flanges; j++) {
-                    if (rangesMeet(x[i], x[i + 1], x[j], x[j + 1])
-                            && rangesMeet(y[i], y[i + 1], y[j], y[j + 1])) {
+                int left = Math.min(x[i], x[i + 1]);
+                int right = Math.max(x[i], x[i + 1]);
+                int low = Math.min(y[i], y[i + 1]);
+                int top = Math.max(y[i], y[i + 1]);
+                for (int j = i + 3; j < flanges; j++) {
+                    if (reaches(x[j], x[j + 1], left, right) && reaches(y[j], y[j + 1], low, top)) {
                         return true;
                     }
                 }
@@ -422,12 +420,11 @@ public final class FlangeFolder {
                 int fromY = y[k] - y[b + 1];
                 int laidX = fromX * alongX + fromY * alongY;
                 int laidY = way * (fromY * alongX - fromX * alongY);
-                if (k > 0 && rangesMeet(lastX, laidX, -sheet.wide, sheet.wide)
-                        && Math.min(lastY, laidY) < 0) {
+                if (k > 0 && Math.min(lastY, laidY) < 0 && reaches(lastX, laidX, -sheet.wide, sheet.wide)) {
                     return HITS_BELOW;
                 }
-                if (k > 0 && sheet.high > 0 && rangesMeet(lastX, laidX, 0, 0)
-                        && rangesMeet(lastY, laidY, 1, sheet.high)) {
+                if (k > 0 && sheet.high > 0 && reaches(lastX, laidX, 0, 0)
+                        && reaches(lastY, laidY, 1, sheet.high)) {
                     above = true;
                 }
                 lastX = laidX;
@@ -436,8 +433,9 @@ public final class FlangeFolder {
             return above ? HITS_ABOVE : 0;
         }
 
-        private static boolean rangesMeet(int a, int b, int c, int d) {
-            return Math.max(Math.min(a, b), Math.min(c, d)) <= Math.min(Math.max(a, b), Math.max(c, d));
+        /** Whether something between a and b, whichever is the lesser, lies from least to most. */
+        private static boolean reaches(int a, int b, int least, int most) {
+            return (a <= most || b <= most) && (a >= least || b >= least);
         }
     }
 
@@ -489,13 +487,9 @@ public final class FlangeFolder {
         }
 
         int freeAt(int mask) {
-            if (freeBits[mask] == UNKNOWN) {
-                freeBits[mask] = findFree(mask);
+            if (freeBits[mask] != UNKNOWN) {
+                return freeBits[mask];
             }
-            return freeBits[mask];
-        }
-
-        private int findFree(int mask) {
             int found = 0;
             shape.trace(sheet, mask);
             for (int b = 0; b < sheet.bends; b++) {
@@ -508,6 +502,7 @@ public final class FlangeFolder {
                     found -= 1 << b;
                 }
             }
+            freeBits[mask] = found;
             return found;
         }
 
@@ -538,19 +533,26 @@ public final class FlangeFolder {
             return paths[all];
         }
 
+        /** Finds the orders, unless they are known; NONE stands where there is none. */
         void plan() {
             if (planned) {
                 return;
             }
-            orderCount = pathsFrom(0);
-            if (orderCount > 0) {
-                findFewest();
-                firstChanges = walk(firstOrder, false);
-                bestChanges = walk(bestOrder, true);
-            }
             planned = true;
+            orderCount = pathsFrom(0);
+            if (orderCount == 0) {
+                Arrays.fill(firstOrder, NONE);
+                Arrays.fill(bestOrder, NONE);
+                firstChanges = NONE;
+                bestChanges = NONE;
+                return;
+            }
+            findFewest();
+            firstChanges = walk(firstOrder, false);
+            bestChanges = walk(bestOrder, true);
         }
 
+        /** Of each mask that pathsFrom met, and each tool of the bend ahead; freeBits of those are known. */
         private void findFewest() {
             int all = sheet.allBends();
             Arrays.fill(fewest, NEVER);
@@ -565,7 +567,7 @@ public final class FlangeFolder {
         }
 
         private int fewestFrom(int mask, int tool) {
-            int bits = freeAt(mask);
+            int bits = freeBits[mask];
             int least = NEVER;
             for (int b = 0; b < sheet.bends; b++) {
                 if ((bits >> b & 1) == 1) {
@@ -602,7 +604,7 @@ public final class FlangeFolder {
         }
 
         private int leastWithin(int mask, int tool, int limit) {
-            int bits = freeAt(mask);
+            int bits = freeBits[mask];
             for (int b = 0; b < sheet.bends; b++) {
                 if ((bits >> b & 1) == 1 && changesBy(mask, tool, b) <= limit) {
                     return b;

@@ -480,6 +480,7 @@ public final class PromisesTest {
         due("orders: from none made on", y.orders(), 720);
         due("orders: ways from here on", y.ways(), 120);
         y.back();
+        due("orders: still", y.orders(), 720);
         y.strip(4);
         due("orders: no bends", y.orders(), 1);
         y.back();
@@ -689,6 +690,10 @@ public final class PromisesTest {
         }
         Check.does(x, "s5;b4 0 0;b5 0 0;b4 0 0;m0;m1;m2;", -2006);
         Check.does(x, "s1;b1 0 0;b1 0 0;b1 0 0;b1 0 0;b1 0 0;b1 0 0;b1 0 0;", -2007);
+        due("ends all: orders ahead of it", x.orders(), 2);
+        Check.does(x, "s1;b1 0 0;b1 1 0;m0;m1;", -2004);
+        due("ends all: orders behind it", x.orders(), 2);
+        due("ends all: free behind it", x.free(), 1);
         due("ends all: refusals do not count", x.told(0) + x.told(1) + x.told(2), 0);
         due("ends all: states", x.told(4), 5);
         x.clear();
@@ -791,6 +796,14 @@ public final class PromisesTest {
         long[] none = {0, 0, 0, 0, 3, 2, 0, 0, 2, 8, 3, 5, 8, 64, 70, 7, 3, 1, 1, 0, 0, 3, -1, 0, 0, 0, 0, 3, 0, 4, 0,
             7, 0, 0, 0, 7, 0, 3, 0, NONE, NONE, 0};
         due("digest: no order", y.digest(), mixed(none));
+        FlangeFolder z = new FlangeFolder();
+        z.strip(20);
+        z.bend(20, 1, 0);
+        z.bend(20, -1, 1);
+        z.bend(20, 1, 0);
+        long[] best = {0, 0, 0, 0, 4, 3, 0, 0, 2, 8, 3, 5, 8, 789, 800, 80, 20, 20, 1, 0, 0, 20, -1, 1, 0, 20, 1, 0, 0,
+            0, 0, 20, 0, 40, 0, 60, 0, 80, 0, 0, 0, 80, 0, 7, 6, 1, 2, 6};
+        due("digest: best is ahead of first", z.digest(), mixed(best));
     }
 
     private static long mixed(long[] values) {
