@@ -316,6 +316,20 @@ public final class PromisesTest {
         z.makes(1);
         z.press(3, 0);
         due("below: down is below for up alone", z.hits(0), 1);
+        startsBelow();
+    }
+
+    /** The strip begins at x 2, y -3 as bend 4 lies, goes on to x 5 and round over it: only its end is in reach. */
+    private static void startsBelow() {
+        FlangeFolder x = folder(3, 8, 1, 10, 1, 5, 1, 5, 1, 2, 1);
+        x.press(0, 0);
+        for (int i = 0; i < 4; i++) {
+            due("below: made first", x.makes(i), i + 1);
+        }
+        x.press(1, 0);
+        due("below: the end of the strip beyond WIDE", x.hits(4), 0);
+        x.press(2, 0);
+        due("below: the end of the strip at WIDE", x.hits(4), 1);
     }
 
     /** Flange 3 ends over the joint of bend 0: 3 on, 4 up, 3 back, so it is there at x 0, y 4. */
@@ -345,7 +359,21 @@ public final class PromisesTest {
         z.press(0, 40);
         due("above: x 1 is beside it", z.hits(0), 0);
         standsUpon();
+        startsAbove();
         comesToTheJoint();
+    }
+
+    /** The strip begins at x 0, y 3 as bend 3 lies, goes up and round to it from the left. */
+    private static void startsAbove() {
+        FlangeFolder x = folder(3, 4, 1, 6, 1, 4, 1, 2, 1);
+        x.press(0, 0);
+        for (int i = 0; i < 3; i++) {
+            due("above: made first", x.makes(i), i + 1);
+        }
+        x.press(0, 2);
+        due("above: the end of the strip beyond HIGH", x.hits(3), 0);
+        x.press(0, 3);
+        due("above: the end of the strip at HIGH", x.hits(3), 2);
     }
 
     /** A flange upright at x 0, from y 2 to 7: with HIGH 1 it is out of reach. */
