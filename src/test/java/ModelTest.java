@@ -2,8 +2,10 @@ import java.util.Random;
 
 /** Runs of chosen calls, the same each time, on the class and on the plain model side by side. */
 public final class ModelTest {
-    private static final int RUNS = 400;
+    private static final int RUNS = 1000;
     private static final int CALLS = 300;
+    /** A text of some 200 bytes may still be typed behind these; no object is used for more than 512 calls. */
+    private static final int ROOM_FOR = 300;
     private static final int[] ODD = {Integer.MIN_VALUE, -1002, -2, -1, 0, 1, 2, 3, 4, 5, 6, 7, 10, 11, 20, 21,
         40, 41, 99, 100, 127, 128, Integer.MAX_VALUE};
 
@@ -26,7 +28,8 @@ public final class ModelTest {
 
     private void run(int seed) {
         int before = Check.wrongSoFar();
-        for (int n = 0; n < CALLS && Check.wrongSoFar() == before; n++) {
+        int start = Check.askedSoFar();
+        for (int n = 0; n < CALLS && Check.wrongSoFar() == before && Check.askedSoFar() - start < ROOM_FOR; n++) {
             String name = "run " + seed + ", call " + n + ": ";
             if (dice.nextInt(12) == 0) {
                 tell(name);

@@ -47,14 +47,8 @@ public final class PromisesTest {
         Check.due(call, got, want);
     }
 
-    /** A strip told by LENGTHS and, for each BEND, its WAY; all TOOLS 0. */
     private static FlangeFolder folder(int first, int... lengthsAndWays) {
-        FlangeFolder x = new FlangeFolder();
-        x.strip(first);
-        for (int n = 0; n < lengthsAndWays.length; n += 2) {
-            x.bend(lengthsAndWays[n], lengthsAndWays[n + 1], 0);
-        }
-        return x;
+        return Check.folder(first, lengthsAndWays);
     }
 
     private static void newObject() {
@@ -694,7 +688,7 @@ public final class PromisesTest {
             {"u1;x", 3}, {"a;\t", 2}, {"\u0000", 0}, {"s5;s/;", 4}, {"s5;s:;", 4}, {"s5;s5:", 5}, {"sa;", 1},
             {"s5;a;b2 0 0;q;", 12}};
         for (Object[] f : faults) {
-            Check.does(x, (String) f[0], -10 - (Integer) f[1]);
+            Check.does(new FlangeFolder(), (String) f[0], -10 - (Integer) f[1]);
         }
         Check.does(x, "a;".repeat(59) + "a ", -130);
         Check.does(x, " ".repeat(120), -130);
@@ -704,17 +698,22 @@ public final class PromisesTest {
         due("faults: nothing counts", x.told(0) + x.told(1) + x.told(2), 0);
     }
 
-    private static void doesEndsAll() {
+    private static FlangeFolder secondMade() {
         FlangeFolder x = folder(20, 20, 1, 20, -1);
         x.makes(1);
         x.takes(0, 7);
+        return x;
+    }
+
+    private static void doesEndsAll() {
+        FlangeFolder x = secondMade();
         long before = x.digest();
         String[] ended = {"s0;", "s21;", "b0 0 0;", "b21 0 0;", "b1 2 0;", "b1 99 0;", "b1 0 3;", "m1;", "m2;", "u0;",
             "u2;", "p21 0;", "p0 41;", "k3 0;", "k99 9;"};
         for (String e : ended) {
-            Check.does(x, e, -2000);
-            Check.does(x, "k0 99;p1 1;s9;b2 0 0;s20;b20 0 0;b20 1 0;m1;" + e, -2008);
-            Check.does(x, e + "a;", -2000);
+            Check.does(secondMade(), e, -2000);
+            Check.does(secondMade(), "k0 99;p1 1;s9;b2 0 0;s20;b20 0 0;b20 1 0;m1;" + e, -2008);
+            Check.does(secondMade(), e + "a;", -2000);
         }
         Check.does(x, "s5;b4 0 0;b5 0 0;b4 0 0;m0;m1;m2;", -2006);
         Check.does(x, "s1;b1 0 0;b1 0 0;b1 0 0;b1 0 0;b1 0 0;b1 0 0;b1 0 0;", -2007);
