@@ -43,6 +43,23 @@ final class Check {
         return x;
     }
 
+    /** Its bends, of these TOOLS, can be made in any row under a press of 0, 0, and that is the press. */
+    static FlangeFolder anyRow(int... tools) {
+        int[] lengths = {4, 12, 13, 16, 7, 4};
+        int[] ways = {-1, -1, 1, -1, -1, -1};
+        FlangeFolder x = new FlangeFolder();
+        x.strip(9);
+        for (int i = 0; i < tools.length; i++) {
+            x.bend(lengths[i], ways[i], tools[i]);
+        }
+        x.press(0, 0);
+        return x;
+    }
+
+    static FlangeFolder sixBends() {
+        return anyRow(0, 0, 0, 0, 0, 0);
+    }
+
     /** Bends made one behind the other; each has to be. */
     static void makes(FlangeFolder x, int... bends) {
         int made = x.count(1);

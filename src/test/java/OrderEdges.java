@@ -26,19 +26,6 @@ final class OrderEdges {
         Check.due(call, got, want);
     }
 
-    /** Under a press of 0, 0 all 720 rows of its bends are orders. */
-    private static FlangeFolder anyRow(int... tools) {
-        int[] lengths = {4, 12, 13, 16, 7, 4};
-        int[] ways = {-1, -1, 1, -1, -1, -1};
-        FlangeFolder x = new FlangeFolder();
-        x.strip(9);
-        for (int i = 0; i < tools.length; i++) {
-            x.bend(lengths[i], ways[i], tools[i]);
-        }
-        x.press(0, 0);
-        return x;
-    }
-
     private static FlangeFolder noOrder() {
         return Check.folder(3, 1, 1, 3, -1);
     }
@@ -49,9 +36,9 @@ final class OrderEdges {
         Check.onlyTells("none", noOrder(), 0, FlangeFolder::orders);
         int[] rows = {1, 1, 2, 6, 24, 120, 720};
         for (int n = 0; n <= 6; n++) {
-            Check.onlyTells("all rows of " + n, anyRow(new int[n]), rows[n], FlangeFolder::orders);
+            Check.onlyTells("all rows of " + n, Check.anyRow(new int[n]), rows[n], FlangeFolder::orders);
         }
-        FlangeFolder x = anyRow(0, 1, 2, 0, 1, 2);
+        FlangeFolder x = Check.anyRow(0, 1, 2, 0, 1, 2);
         Check.makes(x, 5, 4, 3, 2, 1, 0);
         due("all MADE, from none MADE on", x.orders(), 720);
     }
@@ -79,13 +66,13 @@ final class OrderEdges {
 
     private static void order() {
         says(15, "The k-th BEND (0 on) of the FIRST ORDER (what 0), of BEST (1)");
-        FlangeFolder x = anyRow(0, 1, 2, 0, 1, 2);
+        FlangeFolder x = Check.anyRow(0, 1, 2, 0, 1, 2);
         int[] best = {0, 3, 1, 4, 2, 5};
         for (int k = 0; k < 6; k++) {
             due("order(" + k + ", 0)", x.order(k, 0), k);
             due("order(" + k + ", 1)", x.order(k, 1), best[k]);
         }
-        FlangeFolder one = anyRow(2);
+        FlangeFolder one = Check.anyRow(2);
         due("of one BEND: order(0, 0)", one.order(0, 0), 0);
         due("of one BEND: order(0, 1)", one.order(0, 1), 0);
         Check.makes(x, 4, 5);
@@ -107,7 +94,7 @@ final class OrderEdges {
 
     private static void orderRefused() {
         says(15, "BAD: k not one of 0 to BENDS less 1, too.");
-        FlangeFolder six = anyRow(0, 0, 0, 0, 0, 0);
+        FlangeFolder six = Check.sixBends();
         for (int k : new int[] {6, -1, 32, LEAST, MOST}) {
             Check.refused("order(" + k + ", 0) of six", six, Check.BAD, y -> y.order(k, 0));
             Check.refused("order(" + k + ", 1) of six", six, Check.BAD, y -> y.order(k, 1));
@@ -116,20 +103,20 @@ final class OrderEdges {
             Check.refused("order(5, " + what + ")", six, Check.BAD, y -> y.order(5, what));
         }
         Check.refused("order(0, 0) without BENDS", new FlangeFolder(), Check.BAD, y -> y.order(0, 0));
-        Check.refused("order(1, 0) of one", anyRow(0), Check.BAD, y -> y.order(1, 0));
+        Check.refused("order(1, 0) of one", Check.anyRow(0), Check.BAD, y -> y.order(1, 0));
         Check.refused("order(2, 0) with no ORDER", noOrder(), Check.BAD, y -> y.order(2, 0));
         Check.refused("order(0, 2) with no ORDER", noOrder(), Check.BAD, y -> y.order(0, 2));
     }
 
     private static void changes() {
         says(16, "CHANGES of BEST (what 0), of the FIRST ORDER (1)");
-        FlangeFolder x = anyRow(0, 1, 0, 1, 0, 1);
+        FlangeFolder x = Check.anyRow(0, 1, 0, 1, 0, 1);
         Check.onlyTells("of BEST", x, 1, y -> y.changes(0));
         Check.onlyTells("of the FIRST", x, 5, y -> y.changes(1));
         due("without BENDS, of BEST", new FlangeFolder().changes(0), 0);
         due("without BENDS, of the FIRST", new FlangeFolder().changes(1), 0);
-        due("of one BEND, of BEST", anyRow(2).changes(0), 0);
-        due("of one BEND, of the FIRST", anyRow(2).changes(1), 0);
+        due("of one BEND, of BEST", Check.anyRow(2).changes(0), 0);
+        due("of one BEND, of the FIRST", Check.anyRow(2).changes(1), 0);
         says(16, "NONE: there is no ORDER.");
         Check.onlyTells("of BEST", noOrder(), Check.NONE, y -> y.changes(0));
         Check.onlyTells("of the FIRST", noOrder(), Check.NONE, y -> y.changes(1));
@@ -144,7 +131,7 @@ final class OrderEdges {
         says(17, "How many ways there are to make all that are not MADE yet, each FREE when its turn comes, from the"
                 + " SHAPE as it is.");
         Check.onlyTells("without BENDS", new FlangeFolder(), 1, FlangeFolder::ways);
-        FlangeFolder x = anyRow(0, 1, 2, 0, 1, 2);
+        FlangeFolder x = Check.anyRow(0, 1, 2, 0, 1, 2);
         int[] left = {720, 120, 24, 6, 2, 1, 1};
         int[] order = {4, 1, 5, 0, 3, 2};
         for (int n = 0; n < 6; n++) {
@@ -180,7 +167,7 @@ final class OrderEdges {
         says(18, "BENDS (what 0), MADE ones (1), those as bits (2), WIDE (3), HIGH (4), what TOOLS TAKE (5 to 7),"
                 + " BLANK (8), NOW LONG (9), all LENGTHS (10).");
         counts("new", new FlangeFolder(), 0, 0, 0, 2, 8, 3, 5, 8, 50, 50, 5);
-        FlangeFolder x = anyRow(0, 1, 2, 0, 1, 2);
+        FlangeFolder x = Check.anyRow(0, 1, 2, 0, 1, 2);
         counts("none MADE", x, 6, 0, 0, 0, 0, 3, 5, 8, 650 - 32, 650, 65);
         Check.makes(x, 5);
         counts("the last MADE", x, 6, 1, 32, 0, 0, 3, 5, 8, 650 - 32, 650 - 8, 65);
@@ -203,7 +190,7 @@ final class OrderEdges {
 
     private static void countRefused() {
         says(18, "BAD.");
-        FlangeFolder x = anyRow(0, 1, 2);
+        FlangeFolder x = Check.anyRow(0, 1, 2);
         for (int what : new int[] {-1, 11, 12, 16, LEAST, MOST}) {
             Check.refused("count(" + what + ")", x, Check.BAD, y -> y.count(what));
         }

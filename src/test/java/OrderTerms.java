@@ -8,12 +8,21 @@ final class OrderTerms {
         {2, 8, 5},
         {2, 8, 5, 4, 1, 0},
         {2, 8, 3, 1, 1, 0, 3, -1, 0},
+        {0, 0, 1, 1, 1, 0, 1, 1, 0, 1, 1, 0},
         {2, 4, 1, 4, 1, 2, 3, 1, 2, 3, -1, 0},
         {2, 3, 4, 1, -1, 1, 3, -1, 2, 1, 1, 1, 3, 1, 2},
         {0, 0, 10, 3, 1, 0, 1, -1, 1, 3, -1, 0, 10, 1, 2},
         {1, 5, 6, 2, 1, 0, 5, 1, 1, 2, -1, 1, 7, -1, 0, 3, 1, 2},
         {0, 0, 1, 1, 1, 0, 2, 1, 1, 2, 1, 2, 3, 1, 0, 3, 1, 1, 4, 1, 2},
+        {0, 0, 1, 2, 1, 0, 3, 1, 0, 5, 1, 2, 6, 1, 1, 4, 1, 2},
         {0, 0, 9, 4, -1, 0, 12, -1, 1, 13, 1, 2, 16, -1, 0, 7, -1, 1, 4, -1, 2}};
+
+    private static final int ONE_BEND = 1;
+    private static final int NO_ORDER = 2;
+    private static final int CLOSES = 3;
+    private static final int BEST_BEGINS_LATER = 4;
+    private static final int LEAST_LEADS_NOWHERE = 5;
+    private static final int ANY_ROW = STRIPS.length - 1;
 
     private OrderTerms() {
     }
@@ -122,14 +131,14 @@ final class OrderTerms {
     }
 
     private static void fromNoneMadeOn() {
-        FlangeFolder x = told(STRIPS[4]);
+        FlangeFolder x = told(STRIPS[LEAST_LEADS_NOWHERE]);
         due("orders() with none MADE", x.orders(), 4);
         Check.makes(x, 0);
         due("orders() with one MADE from which no ORDER goes on", x.orders(), 4);
         due("order(0, 0)", x.order(0, 0), 1);
         due("order(1, 1)", x.order(1, 1), 3);
         due("ways() from there", x.ways(), 0);
-        FlangeFolder y = told(STRIPS[1]);
+        FlangeFolder y = told(STRIPS[ONE_BEND]);
         Check.makes(y, 0);
         due("orders() with all MADE", y.orders(), 1);
         due("order(0, 0) with all MADE", y.order(0, 0), 0);
@@ -139,8 +148,9 @@ final class OrderTerms {
         says("ORDERS: how many there are (1 without BENDS).");
         FlangeFolder x = new FlangeFolder();
         due("orders() without BENDS", x.orders(), 1);
-        due("none", told(STRIPS[2]).orders(), 0);
-        due("every row of six", told(STRIPS[8]).orders(), 720);
+        due("none, for the last would hit the press", told(STRIPS[NO_ORDER]).orders(), 0);
+        due("none, for the last would hit the strip", told(STRIPS[CLOSES]).orders(), 0);
+        due("every row of six", told(STRIPS[ANY_ROW]).orders(), 720);
         x.bend(4, 1, 0);
         x.strip(9);
         due("orders() without BENDS any more", x.orders(), 1);
@@ -149,11 +159,11 @@ final class OrderTerms {
     /** 0 is free at once, but no order begins with it. */
     private static void first() {
         says("The FIRST: that with the least BEND first, then the second, and so on.");
-        FlangeFolder x = told(STRIPS[4]);
+        FlangeFolder x = told(STRIPS[LEAST_LEADS_NOWHERE]);
         due("free()", x.free(), 15);
         order("BEND 0 leads to nothing", x, 0, 1, 2, 3, 0);
-        order("behind BEND 0 comes 2, for 1 leads to nothing", told(STRIPS[3]), 0, 0, 2, 1);
-        order("all rows", told(STRIPS[8]), 0, 0, 1, 2, 3, 4, 5);
+        order("behind BEND 0 comes 2, for 1 leads to nothing", told(STRIPS[BEST_BEGINS_LATER]), 0, 0, 2, 1);
+        order("all rows", told(STRIPS[ANY_ROW]), 0, 0, 1, 2, 3, 4, 5);
     }
 
     private static void order(String name, FlangeFolder x, int what, int... bends) {
@@ -162,26 +172,14 @@ final class OrderTerms {
         }
     }
 
-    /** A strip of which every row of bends is an order, the tools as told. */
-    private static FlangeFolder anyRow(int... tools) {
-        FlangeFolder x = new FlangeFolder();
-        int[] strip = STRIPS[8];
-        x.strip(strip[2]);
-        for (int i = 0; i < tools.length; i++) {
-            x.bend(strip[3 + 3 * i], strip[4 + 3 * i], tools[i]);
-        }
-        x.press(0, 0);
-        return x;
-    }
-
     private static void changes() {
         says("CHANGES of an ORDER: how often the TOOL of a BEND is not that of the one ahead.");
-        int[][] tools = {{}, {0}, {2}, {0, 0}, {0, 1}, {2, 0}, {1, 1, 1, 1, 1, 1}, {0, 1, 0, 1, 0, 1}, {0, 0, 0, 2, 2, 2},
-            {0, 1, 2, 0, 1, 2}};
+        int[][] tools = {{}, {0}, {2}, {0, 0}, {0, 1}, {2, 0}, {1, 1, 1, 1, 1, 1}, {0, 1, 0, 1, 0, 1},
+            {0, 0, 0, 2, 2, 2}, {0, 1, 2, 0, 1, 2}};
         int[] ofFirst = {0, 0, 0, 0, 1, 1, 0, 5, 1, 5};
         int[] ofBest = {0, 0, 0, 0, 1, 1, 0, 1, 1, 2};
         for (int n = 0; n < tools.length; n++) {
-            FlangeFolder x = anyRow(tools[n]);
+            FlangeFolder x = Check.anyRow(tools[n]);
             due("row " + n + ": of the FIRST", x.changes(1), ofFirst[n]);
             due("row " + n + ": of BEST", x.changes(0), ofBest[n]);
         }
@@ -189,15 +187,15 @@ final class OrderTerms {
 
     private static void best() {
         says("BEST: of ORDERS with the fewest CHANGES that which is the first.");
-        order("one TOOL", anyRow(1, 1, 1, 1, 1, 1), 1, 0, 1, 2, 3, 4, 5);
-        order("two TOOLS by turns", anyRow(0, 1, 0, 1, 0, 1), 1, 0, 2, 4, 1, 3, 5);
-        order("three TOOLS by turns", anyRow(2, 1, 0, 2, 1, 0), 1, 0, 3, 1, 4, 2, 5);
-        order("all have one change", anyRow(1, 0), 1, 0, 1);
-        order("0, 3, 1, 2 ahead of 1, 2, 0, 3", anyRow(0, 1, 1, 0), 1, 0, 3, 1, 2);
-        order("the least BEND is not the first of it", told(STRIPS[3]), 1, 2, 0, 1);
-        due("its CHANGES", told(STRIPS[3]).changes(0), 1);
-        order("of few", told(STRIPS[4]), 1, 1, 3, 2, 0);
-        due("CHANGES of few", told(STRIPS[4]).changes(0), 1);
+        order("one TOOL", Check.anyRow(1, 1, 1, 1, 1, 1), 1, 0, 1, 2, 3, 4, 5);
+        order("two TOOLS by turns", Check.anyRow(0, 1, 0, 1, 0, 1), 1, 0, 2, 4, 1, 3, 5);
+        order("three TOOLS by turns", Check.anyRow(2, 1, 0, 2, 1, 0), 1, 0, 3, 1, 4, 2, 5);
+        order("all have one change", Check.anyRow(1, 0), 1, 0, 1);
+        order("0, 3, 1, 2 ahead of 1, 2, 0, 3", Check.anyRow(0, 1, 1, 0), 1, 0, 3, 1, 2);
+        order("the least BEND is not the first of it", told(STRIPS[BEST_BEGINS_LATER]), 1, 2, 0, 1);
+        due("its CHANGES", told(STRIPS[BEST_BEGINS_LATER]).changes(0), 1);
+        order("of few", told(STRIPS[LEAST_LEADS_NOWHERE]), 1, 1, 3, 2, 0);
+        due("CHANGES of few", told(STRIPS[LEAST_LEADS_NOWHERE]).changes(0), 1);
     }
 
     private static void blank() {
@@ -210,7 +208,7 @@ final class OrderTerms {
         FlangeFolder most = Check.folder(20, 20, 1, 20, 1, 20, 1, 20, 1, 20, 1, 20, 1);
         most.takes(0, 0);
         due("the greatest there can be", most.count(8), 1400);
-        FlangeFolder y = anyRow(0, 1, 2, 1);
+        FlangeFolder y = Check.anyRow(0, 1, 2, 1);
         due("by each TOOL", y.count(8), 10 * (9 + 4 + 12 + 13 + 16) - 3 - 5 - 8 - 5);
         Check.makes(y, 2);
         due("MADE or not", y.count(8), 540 - 21);
@@ -221,7 +219,7 @@ final class OrderTerms {
     private static void nowLong() {
         says("NOW LONG: 10 times all LENGTHS, less what those of MADE ones TAKE.");
         due("without BENDS", new FlangeFolder().count(9), 50);
-        FlangeFolder x = anyRow(0, 1, 2, 1, 0, 2);
+        FlangeFolder x = Check.anyRow(0, 1, 2, 1, 0, 2);
         int all = 10 * (9 + 4 + 12 + 13 + 16 + 7 + 4);
         due("none MADE", x.count(9), all);
         int[] takes = {3, 5, 8, 5, 3, 8};

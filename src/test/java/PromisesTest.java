@@ -310,20 +310,6 @@ public final class PromisesTest {
         z.makes(1);
         z.press(3, 0);
         due("below: down is below for up alone", z.hits(0), 1);
-        startsBelow();
-    }
-
-    /** The strip begins at x 2, y -3 as bend 4 lies, goes on to x 5 and round over it: only its end is in reach. */
-    private static void startsBelow() {
-        FlangeFolder x = folder(3, 8, 1, 10, 1, 5, 1, 5, 1, 2, 1);
-        x.press(0, 0);
-        for (int i = 0; i < 4; i++) {
-            due("below: made first", x.makes(i), i + 1);
-        }
-        x.press(1, 0);
-        due("below: the end of the strip beyond WIDE", x.hits(4), 0);
-        x.press(2, 0);
-        due("below: the end of the strip at WIDE", x.hits(4), 1);
     }
 
     /** Flange 3 ends over the joint of bend 0: 3 on, 4 up, 3 back, so it is there at x 0, y 4. */
@@ -353,21 +339,6 @@ public final class PromisesTest {
         z.press(0, 40);
         due("above: x 1 is beside it", z.hits(0), 0);
         standsUpon();
-        startsAbove();
-        comesToTheJoint();
-    }
-
-    /** The strip begins at x 0, y 3 as bend 3 lies, goes up and round to it from the left. */
-    private static void startsAbove() {
-        FlangeFolder x = folder(3, 4, 1, 6, 1, 4, 1, 2, 1);
-        x.press(0, 0);
-        for (int i = 0; i < 3; i++) {
-            due("above: made first", x.makes(i), i + 1);
-        }
-        x.press(0, 2);
-        due("above: the end of the strip beyond HIGH", x.hits(3), 0);
-        x.press(0, 3);
-        due("above: the end of the strip at HIGH", x.hits(3), 2);
     }
 
     /** A flange upright at x 0, from y 2 to 7: with HIGH 1 it is out of reach. */
@@ -383,22 +354,6 @@ public final class PromisesTest {
         due("above: out of reach", x.hits(0), 0);
         x.press(0, 2);
         due("above: in reach", x.hits(0), 2);
-    }
-
-    /** By unmakes() the last flange comes down upon the joint: from y 1 on it is hit, with HIGH 0 it is not. */
-    private static void comesToTheJoint() {
-        FlangeFolder x = folder(1, 2, 1, 2, 1, 1, 1, 1, -1, 2, 1);
-        x.press(0, 0);
-        int[] order = {3, 4, 1, 2};
-        for (int n = 0; n < 4; n++) {
-            due("above: made first", x.makes(order[n]), n + 1);
-        }
-        x.unmakes(3);
-        due("above: at joint 1, x", x.joint(6, 0), 1);
-        due("above: at joint 1, y", x.joint(6, 1), 0);
-        due("above: HIGH 0 reaches nothing", x.hits(0), 3);
-        x.press(0, 1);
-        due("above: HIGH 1", x.hits(0), 2);
     }
 
     private static void hitsItself() {

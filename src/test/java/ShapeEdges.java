@@ -26,10 +26,6 @@ final class ShapeEdges {
         Check.due(call, got, want);
     }
 
-    private static FlangeFolder sixBends() {
-        return Check.folder(9, 4, -1, 12, -1, 13, 1, 16, -1, 7, -1, 4, -1);
-    }
-
     private static void of() {
         says(9, "Of BEND i: LENGTH of the FLANGE behind it (what 0), WAY (1), TOOL (2), MADE (3: 1, 0).");
         FlangeFolder x = new FlangeFolder();
@@ -66,8 +62,7 @@ final class ShapeEdges {
             due("one FLANGE: joint(" + k + ", 0)", one.joint(k, 0), xs[k]);
             due("one FLANGE: joint(" + k + ", 1)", one.joint(k, 1), 0);
         }
-        FlangeFolder x = sixBends();
-        x.press(0, 0);
+        FlangeFolder x = Check.sixBends();
         due("seven FLANGES: joint(0, 0)", x.joint(0, 0), 0);
         due("seven FLANGES: joint(7, 0)", x.joint(7, 0), 65);
         due("seven FLANGES: joint(7, 1)", x.joint(7, 1), 0);
@@ -85,7 +80,7 @@ final class ShapeEdges {
     private static void jointRefused() {
         says(10, "BAD.");
         FlangeFolder one = new FlangeFolder();
-        FlangeFolder seven = sixBends();
+        FlangeFolder seven = Check.sixBends();
         for (int k : new int[] {2, -1, LEAST, MOST}) {
             Check.refused("one FLANGE: joint(" + k + ", 0)", one, Check.BAD, y -> y.joint(k, 0));
         }
@@ -96,6 +91,8 @@ final class ShapeEdges {
             Check.refused("joint(7, " + what + ")", seven, Check.BAD, y -> y.joint(7, what));
         }
         seven.back();
+        due("joint(7, 0) of the last state with seven", seven.joint(7, 0), 65);
+        seven.back();
         Check.refused("six FLANGES: joint(7, 0)", seven, Check.BAD, y -> y.joint(7, 0));
     }
 
@@ -104,8 +101,7 @@ final class ShapeEdges {
         box("one FLANGE", new FlangeFolder(), 0, 0, 5, 0);
         box("the least", Check.folder(1), 0, 0, 1, 0);
         box("the longest", Check.folder(20, 20, 1, 20, 1, 20, 1, 20, 1, 20, 1, 20, 1), 0, 0, 140, 0);
-        FlangeFolder x = sixBends();
-        x.press(0, 0);
+        FlangeFolder x = Check.sixBends();
         Check.makes(x, 0, 1, 2, 3, 4, 5);
         box("all MADE", x, -19, -17, 9, 0);
         for (int way = -1; way <= 1; way += 2) {
@@ -127,7 +123,7 @@ final class ShapeEdges {
 
     private static void boxRefused() {
         says(11, "BAD.");
-        FlangeFolder x = sixBends();
+        FlangeFolder x = Check.sixBends();
         for (int what : new int[] {-1, 4, LEAST, MOST}) {
             Check.refused("box(" + what + ")", x, Check.BAD, y -> y.box(what));
         }
@@ -145,8 +141,7 @@ final class ShapeEdges {
             x.press(p[0], p[1]);
             Check.onlyTells("WIDE " + p[0] + ", HIGH " + p[1], x, p[2], y -> y.hits(1));
         }
-        FlangeFolder six = sixBends();
-        six.press(0, 0);
+        FlangeFolder six = Check.sixBends();
         for (int i = 0; i < 6; i++) {
             int bend = i;
             Check.onlyTells("one of six", six, 0, y -> y.hits(bend));
@@ -159,7 +154,7 @@ final class ShapeEdges {
         for (int i : new int[] {2, 6, -1, 31, 32, LEAST, MOST}) {
             Check.refused("hits(" + i + ")", x, Check.BAD, y -> y.hits(i));
         }
-        Check.refused("hits(6) of six", sixBends(), Check.BAD, y -> y.hits(6));
+        Check.refused("hits(6) of six", Check.sixBends(), Check.BAD, y -> y.hits(6));
         Check.refused("hits(0) without BENDS", new FlangeFolder(), Check.BAD, y -> y.hits(0));
         says(12, "NO: it is MADE.");
         Check.makes(x, 1);
@@ -172,8 +167,7 @@ final class ShapeEdges {
         says(13, "BENDS that are FREE, as bits.");
         due("without BENDS", new FlangeFolder().free(), 0);
         due("one", Check.folder(5, 5, 1).free(), 1);
-        FlangeFolder x = sixBends();
-        x.press(0, 0);
+        FlangeFolder x = Check.sixBends();
         due("all of six", x.free(), 63);
         int left = 63;
         for (int i = 0; i < 6; i++) {
@@ -188,8 +182,7 @@ final class ShapeEdges {
     private static void freeOfMany() {
         for (int made = 0; made < 6; made++) {
             for (int wide = 0; wide <= 20; wide += 4) {
-                FlangeFolder x = sixBends();
-                x.press(0, 0);
+                FlangeFolder x = Check.sixBends();
                 Check.makes(x, made);
                 x.press(wide, 2 * wide);
                 int bits = 0;

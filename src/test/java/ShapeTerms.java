@@ -247,6 +247,34 @@ final class ShapeTerms {
         Check.makes(z, 1, 2);
         due("the last JOINT is at x 1", z.hits(0), 0);
         due("box(0) by JOINT 0", z.box(0), 0);
+        jointZeroBelow();
+        jointZeroAbove();
+    }
+
+    /** The strip begins at x 2, y -3 as bend 4 lies, goes on to x 5 and round over it: JOINT 0 alone is in reach. */
+    private static void jointZeroBelow() {
+        for (int way = -1; way <= 1; way += 2) {
+            FlangeFolder x = Check.folder(3, 8, way, 10, way, 5, way, 5, way, 2, way);
+            x.press(0, 0);
+            Check.makes(x, 0, 1, 2, 3);
+            x.press(1, 0);
+            due("JOINT 0 beyond WIDE", x.hits(4), 0);
+            x.press(2, 0);
+            due("JOINT 0 at WIDE", x.hits(4), 1);
+        }
+    }
+
+    /** The strip begins at x 0, y 3 as bend 3 lies, goes up and round to it from the left. */
+    private static void jointZeroAbove() {
+        for (int way = -1; way <= 1; way += 2) {
+            FlangeFolder x = Check.folder(3, 4, way, 6, way, 4, way, 2, way);
+            x.press(0, 0);
+            Check.makes(x, 0, 1, 2);
+            x.press(0, 2);
+            due("JOINT 0 beyond HIGH", x.hits(3), 0);
+            x.press(0, 3);
+            due("JOINT 0 at HIGH", x.hits(3), 2);
+        }
     }
 
     /** The same bend, with 0 to 4 flanges more ahead of it, so that the shape goes each of the four ways there. */
@@ -366,6 +394,20 @@ final class ShapeTerms {
             due("WAY " + way + ": y 0 at the JOINT is not y 1", u.hits(1), 0);
         }
         aheadOfIt();
+        comesToTheJoint();
+    }
+
+    /** By unmakes() the last flange comes down upon the joint: from y 1 on it is hit, with HIGH 0 nothing is. */
+    private static void comesToTheJoint() {
+        FlangeFolder x = Check.folder(1, 2, 1, 2, 1, 1, 1, 1, -1, 2, 1);
+        x.press(0, 0);
+        Check.makes(x, 3, 4, 1, 2);
+        x.unmakes(3);
+        due("the last JOINT at JOINT 1, x", x.joint(6, 0), 1);
+        due("the last JOINT at JOINT 1, y", x.joint(6, 1), 0);
+        due("HIGH 0: there is nothing from 1 to 0", x.hits(0), 3);
+        x.press(0, 1);
+        due("HIGH 1", x.hits(0), 2);
     }
 
     /** What lies ahead of the bend may be over its joint, as well: from the left it comes up to x -1, x 0, x 1. */
@@ -413,9 +455,42 @@ final class ShapeTerms {
                     Check.makes(x, i);
                 }
                 due(what[n] + ", side " + side, x.hits(last), dues[n]);
+                due(what[n] + ", side " + side + ": free()", x.free(), dues[n] == 0 ? 1 << last : 0);
+                due(what[n] + ", side " + side + ": ways()", x.ways(), dues[n] == 0 ? 1 : 0);
             }
         }
         alongOneLine();
+        eachDirection();
+    }
+
+    /** Upon the middle of a flange, and 1 short of it, the flange going each of the four ways. */
+    private static void eachDirection() {
+        int[] ahead = {2, 3, 6, 5, 2, 3};
+        for (int from = 0; from <= 3; from++) {
+            for (int side = -1; side <= 1; side += 2) {
+                FlangeFolder x = new FlangeFolder();
+                x.strip(ahead[from]);
+                for (int k = from + 1; k < ahead.length; k++) {
+                    x.bend(ahead[k], k <= 3 ? -side : side, 0);
+                }
+                x.press(0, 0);
+                makesAll(x);
+                x.bend(1, side, 0);
+                due((3 - from) + " ahead, side " + side + ": 1 short", x.hits(5 - from), 0);
+                x.back();
+                x.bend(2, side, 0);
+                due((3 - from) + " ahead, side " + side + ": upon it", x.hits(5 - from), 3);
+                due((3 - from) + " ahead, side " + side + ": free()", x.free(), 0);
+            }
+        }
+    }
+
+    private static void makesAll(FlangeFolder x) {
+        int bends = x.count(0);
+        Check.holds("there is an ORDER ahead of the test", x.orders() > 0);
+        for (int k = 0; k < bends; k++) {
+            Check.makes(x, x.order(k, 0));
+        }
     }
 
     private static FlangeFolder told(int[] row, int side) {

@@ -203,12 +203,11 @@ final class TextEdges {
     }
 
     private static void digest() {
-        says(24, "h = 2934; then h = 31 h + v for each v: told(0) to told(4); count(0) to count(10); LENGTH of FLANGE 0;"
-                + " of each BEND of(0) to of(3); of each JOINT its x, y; box(0) to box(3); free(); orders(); changes(0),"
-                + " changes(1); ways().");
+        says(24, "h = 2934; then h = 31 h + v for each v: told(0) to told(4); count(0) to count(10);"
+                + " LENGTH of FLANGE 0; of each BEND of(0) to of(3); of each JOINT its x, y; box(0) to box(3);"
+                + " free(); orders(); changes(0), changes(1); ways().");
         mixed("new", new FlangeFolder(), 5);
-        FlangeFolder six = Check.folder(9, 4, -1, 12, -1, 13, 1, 16, -1, 7, -1, 4, -1);
-        six.press(0, 0);
+        FlangeFolder six = Check.sixBends();
         mixed("six BENDS", six, 9);
         Check.makes(six, 0, 1, 2, 3, 4, 5);
         mixed("six MADE", six, 9);

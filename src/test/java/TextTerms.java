@@ -151,8 +151,8 @@ final class TextTerms {
         says("one that its call would refuse then ends all, nothing is done.");
         String[] ahead = {"", "a;", "k0 99;p1 1;", "s9;b2 0 0;m0;"};
         int[] orders = {0, 1, 2, 3};
-        String[] refused = {"s0;", "s21;", "b0 0 0;", "b21 0 0;", "b1 2 0;", "b1 0 3;", "m6;", "u6;", "p21 0;", "p0 41;",
-            "k3 0;"};
+        String[] refused = {"s0;", "s21;", "b0 0 0;", "b21 0 0;", "b1 2 0;", "b1 0 3;", "m6;", "u6;", "p21 0;",
+            "p0 41;", "k3 0;"};
         for (int n = 0; n < ahead.length; n++) {
             for (String r : refused) {
                 undone(ahead[n] + r, -2000 - orders[n]);
@@ -168,10 +168,28 @@ final class TextTerms {
         undone("s5;b4 0 0;b5 0 0;b4 0 0;m0;m1;m2;", -2006);
         undone("b1 0 0;b1 0 0;b1 0 0;b1 0 0;b1 0 0;", -2004);
         undone("a;".repeat(58) + "u0;", -2058);
+        whatWasLookedAt();
         does("a;m1;", 2);
         does("u1;m1;u1;", 3);
         does("s5;b5 0 0;m0;", 3);
         does("b1 0 0;b1 0 0;b1 0 0;b1 0 0;", 4);
+    }
+
+    /** What the text looked at, a strip that closes and a press that all hit, is not what the object has. */
+    private static void whatWasLookedAt() {
+        String[] texts = {"s5;b4 0 0;b5 0 0;b4 0 0;p0 0;m0;m1;m2;", "s3;b1 0 0;b3 1 0;b9 0 0;p20 40;m0;m1;",
+            "b4 0 0;b4 0 0;u2;", "p20 40;u2;", "s1;u0;"};
+        int[] ends = {7, 6, 2, 1, 1};
+        for (int n = 0; n < texts.length; n++) {
+            FlangeFolder x = Check.folder(20, 20, 1, 20, -1, 20, 1);
+            Check.makes(x, 0);
+            Check.types(x, texts[n]);
+            Check.onlyTells("does() of '" + texts[n] + "'", x, -2000 - ends[n], FlangeFolder::does);
+            due("orders()", x.orders(), 6);
+            due("free()", x.free(), 6);
+            due("makes(1)", x.makes(1), 2);
+            due("hits(2)", x.hits(2), 0);
+        }
     }
 
     private static void undone(String text, int want) {

@@ -31,13 +31,8 @@ final class ToldInEdges {
         Check.due(call, got, want);
     }
 
-    private static FlangeFolder sixBends() {
-        return Check.folder(9, 4, -1, 12, -1, 13, 1, 16, -1, 7, -1, 4, -1);
-    }
-
     private static FlangeFolder sixMade() {
-        FlangeFolder x = sixBends();
-        x.press(0, 0);
+        FlangeFolder x = Check.sixBends();
         Check.makes(x, 0, 1, 2, 3, 4, 5);
         return x;
     }
@@ -148,7 +143,8 @@ final class ToldInEdges {
     private static void press() {
         says(4, "WIDE becomes w, HIGH h: 100 times WIDE as it was, and HIGH as it was, together.");
         FlangeFolder x = new FlangeFolder();
-        int[][] told = {{20, 40, 208}, {0, 0, 2040}, {20, 0, 0}, {0, 40, 2000}, {1, 1, 40}, {19, 39, 101}, {2, 8, 1939}};
+        int[][] told = {{20, 40, 208}, {0, 0, 2040}, {20, 0, 0}, {0, 40, 2000}, {1, 1, 40}, {19, 39, 101},
+            {2, 8, 1939}};
         for (int[] p : told) {
             due("press(" + p[0] + ", " + p[1] + ")", x.press(p[0], p[1]), p[2]);
             due("count(3)", x.count(3), p[0]);
@@ -191,8 +187,7 @@ final class ToldInEdges {
 
     private static void makes() {
         says(6, "BEND i is MADE: how many are.");
-        FlangeFolder x = sixBends();
-        x.press(0, 0);
+        FlangeFolder x = Check.sixBends();
         int[] order = {5, 0, 3, 1, 4, 2};
         int bits = 0;
         for (int n = 0; n < 6; n++) {
@@ -202,8 +197,7 @@ final class ToldInEdges {
             due("of(" + order[n] + ", 3)", x.of(order[n], 3), 1);
         }
         says(6, "S.");
-        FlangeFolder y = sixBends();
-        y.press(0, 0);
+        FlangeFolder y = Check.sixBends();
         Check.leaves("the first", y, 1, z -> z.makes(5));
         Check.makes(y, 0, 1, 2, 3, 4);
         Check.leaves("the last", y, 6, z -> z.makes(5));
@@ -215,7 +209,7 @@ final class ToldInEdges {
         for (int i : new int[] {2, 5, 6, -1, 31, 32, 33, 64, LEAST, LEAST + 1, MOST}) {
             Check.refused("makes(" + i + ")", x, Check.BAD, y -> y.makes(i));
         }
-        FlangeFolder six = sixBends();
+        FlangeFolder six = Check.sixBends();
         Check.refused("makes(6) of six", six, Check.BAD, y -> y.makes(6));
         six.strip(9);
         Check.refused("makes(0) of one that is away", six, Check.BAD, y -> y.makes(0));
@@ -275,7 +269,7 @@ final class ToldInEdges {
         }
         Check.refused("unmakes(0) without BENDS", new FlangeFolder(), Check.BAD, y -> y.unmakes(0));
         says(7, "NO: it is not MADE.");
-        FlangeFolder none = sixBends();
+        FlangeFolder none = Check.sixBends();
         for (int i = 0; i < 6; i++) {
             int bend = i;
             Check.refused("unmakes(" + i + ") of one not MADE", none, Check.NO, y -> y.unmakes(bend));
@@ -304,7 +298,7 @@ final class ToldInEdges {
     private static void again() {
         says(8, "No BEND is MADE: how many were.");
         due("again() without BENDS", new FlangeFolder().again(), 0);
-        due("again() with none MADE", sixBends().again(), 0);
+        due("again() with none MADE", Check.sixBends().again(), 0);
         FlangeFolder x = sixMade();
         due("again() with all MADE", x.again(), 6);
         due("count(1)", x.count(1), 0);
@@ -313,7 +307,7 @@ final class ToldInEdges {
         due("again() once more", x.again(), 0);
         says(8, "S.");
         Check.leaves("again() with all MADE", sixMade(), 6, FlangeFolder::again);
-        Check.leaves("again() with none MADE", sixBends(), 0, FlangeFolder::again);
+        Check.leaves("again() with none MADE", Check.sixBends(), 0, FlangeFolder::again);
         Check.leaves("again() without BENDS", new FlangeFolder(), 0, FlangeFolder::again);
     }
 }
