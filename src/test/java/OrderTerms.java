@@ -69,7 +69,7 @@ final class OrderTerms {
                 }
             }
             due("strip " + n + ": orders()", told(STRIPS[n]).orders(), found.size());
-            compare("strip " + n + ": ", told(STRIPS[n]), found);
+            compare("strip " + n + ": ", STRIPS[n], found);
         }
     }
 
@@ -97,7 +97,8 @@ final class OrderTerms {
         return true;
     }
 
-    private static void compare(String name, FlangeFolder x, List<List<Integer>> found) {
+    private static void compare(String name, int[] strip, List<List<Integer>> found) {
+        FlangeFolder x = told(strip);
         if (found.isEmpty()) {
             due(name + "order(0, 0)", x.order(0, 0), Check.NONE);
             due(name + "order(0, 1)", x.order(0, 1), Check.NONE);
@@ -108,26 +109,26 @@ final class OrderTerms {
         List<Integer> first = found.get(0);
         List<Integer> best = first;
         for (List<Integer> row : found) {
-            best = changesOf(x, row) < changesOf(x, best) ? row : best;
+            best = changesOf(strip, row) < changesOf(strip, best) ? row : best;
         }
         for (int k = 0; k < first.size(); k++) {
             due(name + "order(" + k + ", 0)", x.order(k, 0), first.get(k));
             due(name + "order(" + k + ", 1)", x.order(k, 1), best.get(k));
         }
-        due(name + "changes(0)", x.changes(0), changesOf(x, best));
-        due(name + "changes(1)", x.changes(1), changesOf(x, first));
+        due(name + "changes(0)", x.changes(0), changesOf(strip, best));
+        due(name + "changes(1)", x.changes(1), changesOf(strip, first));
     }
 
-    private static int changesOf(FlangeFolder x, List<Integer> row) {
-        int[] tools = {0, 1, 2, 0, 1, 2};
-        for (int i = 0; i < x.count(0); i++) {
-            tools[i] = x.of(i, 2);
-        }
+    private static int changesOf(int[] strip, List<Integer> row) {
         int n = 0;
         for (int k = 1; k < row.size(); k++) {
-            n += tools[row.get(k)] == tools[row.get(k - 1)] ? 0 : 1;
+            n += toolOf(strip, row.get(k)) == toolOf(strip, row.get(k - 1)) ? 0 : 1;
         }
         return n;
+    }
+
+    private static int toolOf(int[] strip, int bend) {
+        return strip[5 + 3 * bend];
     }
 
     private static void fromNoneMadeOn() {

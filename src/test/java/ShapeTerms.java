@@ -289,32 +289,30 @@ final class ShapeTerms {
         }
     }
 
-    /** Ahead of its joint a flange hangs down at x -3, to y -1; all else is beyond that. */
     private static void laidWith(int ahead, int side, int[] order) {
-        int[] lengths = {2, 3, 6, 4, 1, 3, 4};
+        String name = ahead + " ahead, side " + side + ": ";
+        FlangeFolder x = hangsAhead(ahead, side, side, order);
+        x.press(2, 40);
+        due(name + "WIDE 2", x.hits(ahead + 1), 0);
+        x.press(3, 40);
+        due(name + "WIDE 3", x.hits(ahead + 1), 1);
+        FlangeFolder y = hangsAhead(ahead, side, -side, order);
+        y.press(3, 40);
+        due(name + "the other WAY", y.hits(ahead + 1), 0);
+    }
+
+    /** Ahead of its last joint a flange hangs down at x -3, to y -1; all else is beyond that. */
+    private static FlangeFolder hangsAhead(int ahead, int side, int lastWay, int[] order) {
+        int[] lengths = {2, 3, 6, 4, 1, 3};
         FlangeFolder x = new FlangeFolder();
         x.strip(lengths[4 - ahead]);
         for (int k = 5 - ahead; k <= 5; k++) {
             x.bend(lengths[k], k == 5 ? -side : side, 0);
         }
-        x.bend(4, side, 0);
+        x.bend(4, lastWay, 0);
         x.press(0, 0);
         Check.makes(x, order);
-        String name = ahead + " ahead, side " + side + ": ";
-        x.press(2, 40);
-        due(name + "WIDE 2", x.hits(ahead + 1), 0);
-        x.press(3, 40);
-        due(name + "WIDE 3", x.hits(ahead + 1), 1);
-        FlangeFolder y = new FlangeFolder();
-        y.strip(lengths[4 - ahead]);
-        for (int k = 5 - ahead; k <= 5; k++) {
-            y.bend(lengths[k], k == 5 ? -side : side, 0);
-        }
-        y.bend(4, -side, 0);
-        y.press(0, 0);
-        Check.makes(y, order);
-        y.press(3, 40);
-        due(name + "the other WAY", y.hits(ahead + 1), 0);
+        return x;
     }
 
     /** One flange of LENGTH 1 hangs down, so that y -1 and y 0 alone are there. */
