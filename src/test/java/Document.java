@@ -39,9 +39,13 @@ final class Document {
                 .replaceAll("\\s+", " ");
     }
 
+    static String textOf(String section) {
+        return SECTIONS.getOrDefault(section, "");
+    }
+
     /** The tests that follow are for these words of a section. */
     static void says(String section, String words) {
-        String text = SECTIONS.getOrDefault(section, "");
+        String text = textOf(section);
         BitSet named = NAMED.computeIfAbsent(section, s -> new BitSet());
         int at = placeOf(text, words, 0);
         Check.holds("the document says in '" + section + "': " + words, at >= 0);
@@ -63,7 +67,7 @@ final class Document {
 
     static void isTestedWhole(String section) {
         Check.isFor("");
-        String text = SECTIONS.getOrDefault(section, "");
+        String text = textOf(section);
         BitSet named = NAMED.getOrDefault(section, new BitSet());
         StringBuilder left = new StringBuilder();
         for (int n = 0; n < text.length(); n++) {

@@ -8,7 +8,6 @@ final class ShapeTerms {
     }
 
     static void run() {
-        calls();
         lengths();
         bends();
         betweenFlanges();
@@ -37,25 +36,6 @@ final class ShapeTerms {
 
     private static void due(String call, long got, long want) {
         Check.due(call, got, want);
-    }
-
-    /** Every call may be a refused one, or leave a state. */
-    private static void calls() {
-        Document.says("What it is", "An object is used for at most 512 calls after it has been made");
-        FlangeFolder x = new FlangeFolder();
-        for (int n = 0; n < 510; n++) {
-            x.count(11);
-        }
-        due("told(0) as the 511th call", x.told(0), 510);
-        due("count(10) as the 512th call", x.count(10), 5);
-        FlangeFolder y = new FlangeFolder();
-        for (int n = 0; n < 508; n++) {
-            y.strip(1 + n % 20);
-        }
-        due("told(4) as the 509th call", y.told(4), 5);
-        due("back() as the 510th call", y.back(), 4);
-        due("back() as the 511th call", y.back(), 3);
-        due("count(10) as the 512th call", y.count(10), 1 + 505 % 20);
     }
 
     private static void lengths() {
