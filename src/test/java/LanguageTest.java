@@ -36,7 +36,7 @@ public final class LanguageTest {
         neitherCirclesNorDepth(source);
         loopsEnd(source);
         sizes(source);
-        callsMakeNothing();
+        callsMakeNothing(source);
         objectsAreSmall();
         Check.end();
     }
@@ -45,6 +45,14 @@ public final class LanguageTest {
         List<Class<?>> all = new ArrayList<>(List.of(FlangeFolder.class.getDeclaredClasses()));
         all.add(FlangeFolder.class);
         return all;
+    }
+
+    private static Set<String> classNames() {
+        Set<String> names = new TreeSet<>();
+        for (Class<?> c : allClasses()) {
+            names.add(c.getSimpleName());
+        }
+        return names;
     }
 
     private static void classesAndFields() {
@@ -82,8 +90,7 @@ public final class LanguageTest {
             Check.holds("without " + word, !Pattern.compile(word).matcher(source.text).find());
         }
         Check.holds("signs 1 to 127 alone", source.text.chars().allMatch(c -> c >= 1 && c <= 127));
-        Set<String> inside = new TreeSet<>();
-        allClasses().forEach(c -> inside.add(c.getSimpleName()));
+        Set<String> inside = classNames();
         Matcher m = OF_A_CLASS.matcher(source.text);
         while (m.find()) {
             Check.holds("of the library: " + m.group(),
@@ -167,54 +174,27 @@ public final class LanguageTest {
         }
     }
 
-    private static com.sun.management.ThreadMXBean meter() {
-        return (com.sun.management.ThreadMXBean) ManagementFactory.getThreadMXBean();
-    }
-
-    private static long bytesMade() {
-        return meter().getThreadAllocatedBytes(Thread.currentThread().getId());
-    }
-
-    /** All calls of a run live in one room, so that the dearest calls, too, make no object at all. */
-    private static void callsMakeNothing() {
+    /** All calls of a run live in one room: what there is, is made by constructors, and calls make nothing. */
+    private static void callsMakeNothing(Source source) {
         Check.isFor("rule 12: ");
-        FlangeFolder x = new FlangeFolder();
-        dearCalls(x);
-        long before = bytesMade();
-        for (int n = 0; n < 100; n++) {
-            dearCalls(x);
+        Set<String> inside = classNames();
+        for (Source.Method m : source.methods) {
+            Check.holds(m.name() + " makes nothing",
+                    inside.contains(m.name()) || !Pattern.compile("\\bnew\\b|\\{ *-?\\d").matcher(m.body()).find());
         }
-        long perRound = (bytesMade() - before) / 100;
-        Check.holds("bytes made by a round of calls: " + perRound, perRound < 100);
     }
 
     /** Four thousand fit into the room, if each of their fields and elements has four bytes, as here. */
     private static void objectsAreSmall() {
+        com.sun.management.ThreadMXBean meter =
+                (com.sun.management.ThreadMXBean) ManagementFactory.getThreadMXBean();
+        long id = Thread.currentThread().getId();
         FlangeFolder[] all = new FlangeFolder[1000];
-        long before = bytesMade();
+        long before = meter.getThreadAllocatedBytes(id);
         for (int n = 0; n < all.length; n++) {
             all[n] = new FlangeFolder();
         }
-        long each = (bytesMade() - before) / all.length;
+        long each = (meter.getThreadAllocatedBytes(id) - before) / all.length;
         Check.holds("bytes of an object: " + each, 4000 * each <= 4L * ROOM_ELEMENTS);
-    }
-
-    private static void dearCalls(FlangeFolder x) {
-        x.strip(9);
-        x.bend(4, -1, 0);
-        x.bend(12, -1, 1);
-        x.bend(13, 1, 2);
-        x.bend(16, -1, 0);
-        x.bend(7, -1, 1);
-        x.bend(4, -1, 2);
-        x.press(0, 0);
-        x.makes(2);
-        x.type('a');
-        x.type(';');
-        x.does();
-        x.digest();
-        x.back();
-        x.order(5, 1);
-        x.clear();
     }
 }
